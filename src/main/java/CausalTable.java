@@ -674,10 +674,12 @@ public final class CausalTable {
                 size--;
             }
             int place = (oldest + size) % MAX_SAVED;
-            if (ring[place] == null) {
-                ring[place] = new State();
+            State copy = ring[place];
+            if (copy == null) {
+                copy = new State();
+                ring[place] = copy;
             }
-            ring[place].copyFrom(state);
+            copy.copyFrom(state);
             size++;
         }
 

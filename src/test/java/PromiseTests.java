@@ -38,8 +38,10 @@ public final class PromiseTests {
         runTextOfEachCommand();
         promise = 13;
         undo();
+        stampsAreRestored();
         promise = 14;
         latest();
+        cellsDoNotMix();
         promise = 15;
         sibling();
         promise = 16;
@@ -405,6 +407,16 @@ public final class PromiseTests {
         due("merge adds and removes", t.merge(1, 0), 2);
         due("added", t.latestMerge(2), 1);
         due("removed", t.latestMerge(3), 1);
+        t.merge(0, 2);
+        t.put(0, 0, 0, 1);
+        t.include(3, 5, 15);
+        t.merge(3, 2);
+        t.merge(0, 2);
+        t.merge(2, 3);
+        t.delete(3, 0);
+        t.delete(3, 5);
+        due("merge removes from the first cell to the last", t.merge(3, 2), 2);
+        due("removed", t.latestMerge(3), 2);
         for (int bad : BAD_REPLICAS) {
             outOfBounds(t, "merge from", () -> t.merge(bad, 0));
             outOfBounds(t, "merge to", () -> t.merge(0, bad));
@@ -510,6 +522,10 @@ public final class PromiseTests {
         dueError(" d00", 0);
         dueError("D00", 0);
         dueError("x", 0);
+        dueError("0", 0);
+        dueError("00,1", 0);
+        dueError("00", 0);
+        dueError("d00;01,1", 4);
         for (char kind : new char[] {'l', 'v', 'g', 'a', 'i', 'e'}) {
             dueError("" + kind, 1);
             dueError(kind + "4", 1);
@@ -662,14 +678,13 @@ public final class PromiseTests {
             t.put(i % 4, i % 6, i % 3, i);
             t.merge(i % 4, (i + 1) % 4);
         }
-        String[] later = new String[4];
-        later[0] = tellState(t);
         for (int i = 8; i >= 6; i--) {
             due("undo", t.undo(), 2 * (i - 6) + 1);
             due("undo", t.undo(), 2 * (i - 6));
             dueTrue("undo restores", told[i].equals(tellState(t)));
         }
         illegalState(t, "undo of a discarded state", t::undo);
+        due("savedStates", t.savedStates(), 0);
         t.put(0, 0, 0, 1);
         due("undo after undo", t.undo(), 0);
         dueTrue("undo restores", told[6].equals(tellState(t)));
@@ -686,6 +701,17 @@ public final class PromiseTests {
         dueTrue("a call that threw saved nothing", before.equals(tellState(t)));
         t.exclude(0, 5, 5);
         due("savedStates after a call that removes nothing", t.savedStates(), 2);
+    }
+
+    private static void stampsAreRestored() {
+        CausalTable t = new CausalTable();
+        t.put(0, 3, 0, 10);
+        t.put(1, 3, 0, 20);
+        // The later stamp of 0 is undone, so 1 wins again by its number alone.
+        t.put(0, 3, 0, 30);
+        t.undo();
+        t.merge(0, 1);
+        due("latest after undo", t.latest(1, 3), 20);
     }
 
     private static void latest() {
@@ -722,6 +748,55 @@ public final class PromiseTests {
         t.delete(1, 3);
         due("latest of an empty cell", t.latest(1, 3), -1);
         badCells(t, "latest", CausalTable::latest);
+    }
+
+    /** Each cell tells its own entries, whatever the cells beside it hold. */
+    private static void cellsDoNotMix() {
+        CausalTable t = new CausalTable();
+        for (int row = 0; row < 3; row++) {
+            t.put(0, row, 0, 100);
+            t.put(0, row, 1, 200);
+            t.put(0, row, 2, 300);
+            t.add(0, row, 40);
+            t.include(0, row, 15);
+            t.include(0, row, 0);
+        }
+        due("latest", t.latest(0, 1), 100);
+        due("sibling", t.sibling(0, 1, 0), 200);
+        due("sibling", t.sibling(0, 1, 1), -1);
+        dueTrue("mean", t.mean(0, 1) == 200.0f);
+        due("greatest", t.greatest(0, 1), 300);
+        due("counter", t.counter(0, 1), 40);
+        due("elements", t.elements(0, 1), 0x8001);
+        t.put(0, 1, 1, 900);
+        t.put(0, 1, 2, 1);
+        t.put(0, 0, 2, 2);
+        t.add(0, 1, 99);
+        t.add(0, 1, 99);
+        t.add(0, 1, 99);
+        due("latest", t.latest(0, 1), 100);
+        due("sibling", t.sibling(0, 1, 0), 900);
+        due("sibling", t.sibling(0, 1, 1), -1);
+        due("greatest", t.greatest(0, 1), 300);
+        due("counter", t.counter(0, 1), 337);
+        t.put(0, 1, 2, 1);
+        t.add(0, 1, -99);
+        t.delete(0, 1);
+        due("sibling of the row before", t.sibling(0, 0, 0), 200);
+        due("latest of the row behind", t.latest(0, 2), 100);
+        // Smaller values beside it do not count as siblings before it.
+        t.put(0, 3, 1, 500);
+        t.put(0, 3, 2, 1);
+        due("sibling", t.sibling(0, 3, 0), 500);
+        t.put(0, 4, 2, 5);
+        t.add(0, 4, 99);
+        due("greatest", t.greatest(0, 4), 5);
+        t.add(0, 5, 5);
+        t.include(0, 5, 0);
+        t.include(0, 5, 7);
+        due("counter", t.counter(0, 5), 5);
+        t.exclude(0, 5, 0);
+        due("elements", t.elements(0, 5), 1 << 7);
     }
 
     private static void sibling() {
