@@ -130,6 +130,10 @@ final class Check {
     /** All that the queries tell of the state, in 361 calls. */
     static String state(CausalTable t) {
         StringBuilder s = new StringBuilder();
+        // First, so that ifMerged can't hide that it has changed this.
+        for (int part = 0; part < 4; part++) {
+            line(s, "latestMerge(" + part + ")", t.latestMerge(part));
+        }
         for (int r = 0; r < 4; r++) {
             s.append(replica(t, r));
             for (int other = 0; other < 4; other++) {
@@ -139,7 +143,6 @@ final class Check {
                     line(s, "ifMerged" + pair + "3)", t.ifMerged(r, other, 3));
                 }
             }
-            line(s, "latestMerge(" + r + ")", t.latestMerge(r));
         }
         line(s, "agreement()", t.agreement());
         return s.toString();
@@ -170,11 +173,11 @@ final class Check {
 
     /** All that the queries tell, the saved states and the text too, in 364 calls. */
     static String all(CausalTable t) {
-        StringBuilder s = new StringBuilder(state(t));
+        StringBuilder s = new StringBuilder();
         line(s, "savedStates()", t.savedStates());
         line(s, "textLength()", t.textLength());
         line(s, "errorPosition()", t.errorPosition());
-        return s.toString();
+        return s.append(state(t)).toString();
     }
 
     private static void line(StringBuilder s, String call, Object answer) {

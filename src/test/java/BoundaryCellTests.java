@@ -109,6 +109,20 @@ public final class BoundaryCellTests {
         Check.due("latest", t.latest(1, 0), 5);
     }
 
+    static void promise14_latest_columnAndRowBesideItDoNotCount() {
+        CausalTable t = new CausalTable();
+        t.put(1, 1, LATEST, 2);
+        for (int r = 0; r < 4; r++) {
+            // These entries have greater stamps.
+            t.delete(r, 5);
+            t.delete(r, 5);
+            t.put(r, 1, SIBLINGS, 9);
+            t.include(r, 0, 15);
+        }
+        t.mergeAll();
+        Check.due("latest", t.latest(0, 1), 2);
+    }
+
     static void promise14_latest_changesNothing() {
         Check.changesNothing("latest(0, 0)", t -> t.latest(0, 0));
     }
@@ -232,6 +246,20 @@ public final class BoundaryCellTests {
         dueSiblings(four(SIBLINGS, 0, 0, 0, 0), 0, 0, 0, 0);
     }
 
+    static void promise15_sibling_columnsBesideItDoNotCount() {
+        CausalTable t = new CausalTable();
+        for (int r = 0; r < 4; r++) {
+            t.put(r, 3, LATEST, 1);
+            t.put(r, 3, SIBLINGS, 500);
+            t.put(r, 3, GREATEST, 1);
+        }
+        t.mergeAll();
+        for (int index = 0; index < 4; index++) {
+            Check.due("sibling of index " + index, t.sibling(0, 3, index), 500);
+        }
+        Check.due("sibling of index 4", t.sibling(0, 3, 4), CausalTable.NONE);
+    }
+
     static void promise15_sibling_changesNothing() {
         Check.changesNothing("sibling(3, 5, 0)", t -> t.sibling(3, 5, 0));
     }
@@ -291,6 +319,12 @@ public final class BoundaryCellTests {
         }
     }
 
+    static void promise16_greatest_columnsBesideItDoNotCount() {
+        CausalTable t = Check.ran("v00,9;v10,9;v20,9;v30,9;g00,2;a00,9;a10,9;a20,9;a30,9");
+        t.mergeAll();
+        Check.due("greatest", t.greatest(0, 0), 2);
+    }
+
     static void promise16_greatest_afterADeletionStartsAnew() {
         CausalTable t = Check.ran("g00,10;d00;g00,1");
         Check.due("greatest", t.greatest(0, 0), 1);
@@ -344,6 +378,12 @@ public final class BoundaryCellTests {
         CausalTable t = Check.ran("a00,7;a10,-7;m01");
         Check.due("counter", t.counter(1, 0), 0);
         Check.due("entries", t.entries(1, 0, COUNTER), 2);
+    }
+
+    static void promise17_counter_columnsBesideItDoNotCount() {
+        CausalTable t = Check.ran("g00,9;g10,9;g20,9;g30,9;a00,2;i00,1;i10,1;i20,1;i30,1;i00,0");
+        t.mergeAll();
+        Check.due("counter", t.counter(0, 0), 2);
     }
 
     static void promise17_counter_below0IsTold() {
@@ -440,6 +480,12 @@ public final class BoundaryCellTests {
         Check.due("elements", t.elements(3, 5), 65535);
         t = Check.made(u -> Check.fillRow(u, 5));
         Check.due("elements of 64 entries", t.elements(0, 5), 65535);
+    }
+
+    static void promise18_elements_columnAndRowBesideItDoNotCount() {
+        CausalTable t = Check.ran("a00,3;a10,3;a20,3;a30,3;l01,4;l11,4;l21,4;l31,4;i00,2");
+        t.mergeAll();
+        Check.due("elements", t.elements(0, 0), 1 << 2);
     }
 
     static void promise18_elements_severalEntriesOfAnElementAreOneBit() {
@@ -685,6 +731,12 @@ public final class BoundaryCellTests {
         for (int r = 0; r < 4; r++) {
             Check.due("mean", t.mean(r, 5), 999.0f);
         }
+    }
+
+    static void promise21_mean_columnsBesideItDoNotCount() {
+        CausalTable t = Check.ran("l00,9;l10,9;l20,9;l30,9;v00,2;g00,9;g10,9;g20,9;g30,9");
+        t.mergeAll();
+        Check.due("mean", t.mean(0, 0), 2.0f);
     }
 
     static void promise21_mean_equalValuesAllCount() {

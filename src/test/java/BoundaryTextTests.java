@@ -271,6 +271,36 @@ public final class BoundaryTextTests {
         dueCharacters("a00,-", "123456789", VALID);
     }
 
+    static void promise11_errorPosition_behindADigitStandsADigitOrASemicolon() {
+        for (char c = 32; c <= 126; c++) {
+            boolean isDigit = c >= '0' && c <= '9';
+            for (char letter : "lvg".toCharArray()) {
+                dueError(letter + "00,1" + c, isDigit ? VALID : c == ';' ? 6 : 5);
+                dueError(letter + "00,12" + c, isDigit ? VALID : c == ';' ? 7 : 6);
+            }
+            dueError("a00,1" + c, isDigit ? VALID : c == ';' ? 6 : 5);
+            dueError("a00,-1" + c, isDigit ? VALID : c == ';' ? 7 : 6);
+            boolean isElement = c >= '0' && c <= '5';
+            dueError("i00,1" + c, isElement ? VALID : c == ';' ? 6 : 5);
+            dueError("e00,1" + c, isElement ? VALID : c == ';' ? 6 : 5);
+        }
+    }
+
+    static void promise11_errorPosition_behindTheLastDigitStandsASemicolon() {
+        for (char letter : "lvg".toCharArray()) {
+            dueCharacters(letter + "00,0", ";", 6);
+            dueCharacters(letter + "00,123", ";", 8);
+        }
+        dueCharacters("a00,12", ";", 7);
+        dueCharacters("a00,-12", ";", 8);
+        for (char letter : "ie".toCharArray()) {
+            dueCharacters(letter + "00,0", ";", 6);
+            dueCharacters(letter + "00,2", ";", 6);
+            dueCharacters(letter + "00,10", ";", 7);
+            dueCharacters(letter + "00,15", ";", 7);
+        }
+    }
+
     static void promise11_errorPosition_value0IsTaken() {
         for (char letter : "lvg".toCharArray()) {
             dueError(letter + "00,0", VALID);

@@ -196,6 +196,24 @@ public final class BoundaryUndoTests {
         Check.due("latest", t.latest(1, 3), 20);
     }
 
+    static void promise13_undo_restoresStampsOfEachReplicaAndRow() {
+        for (int r = 0; r < 4; r++) {
+            for (int row = 0; row < 6; row++) {
+                int other = (r + 1) % 4;
+                CausalTable t = new CausalTable();
+                t.put(r, row, LATEST, 10);
+                t.delete(r, (row + 1) % 6);
+                t.put(r, row, LATEST, 30);
+                t.undo();
+                t.delete(other, row);
+                t.put(other, row, LATEST, 20);
+                t.merge(other, r);
+                // The stamp of 10 is 1 again, that of 20 is 2; the one of 30 was 3.
+                Check.due("latest", t.latest(r, row), 20);
+            }
+        }
+    }
+
     static void promise13_undo_restoresMarks() {
         CausalTable t = new CausalTable();
         t.put(0, 3, LATEST, 10);

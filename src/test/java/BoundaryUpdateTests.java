@@ -99,8 +99,9 @@ public final class BoundaryUpdateTests {
         CausalTable before = new CausalTable();
         Check.made(Check::used);
         CausalTable after = new CausalTable();
-        Check.same("an object made before", Check.all(before), Check.all(new CausalTable()));
-        Check.same("an object made after", Check.all(after), Check.all(before));
+        String untouched = Check.all(new CausalTable());
+        Check.same("an object made before", Check.all(before), untouched);
+        Check.same("an object made after", Check.all(after), untouched);
     }
 
     static void promise01_newObject_constantsAreAsNamed() {

@@ -97,9 +97,8 @@ public final class PromiseTests {
         }
     }
 
-    /** A call that must throw exactly this exception and change nothing. */
-    private static void dueThrow(CausalTable t, Class<?> want, String call, Supplier<?> run) {
-        String before = tell(t);
+    /** A call that must throw exactly this exception; that it changes nothing is Check's to ask. */
+    private static void dueThrow(Class<?> want, String call, Supplier<?> run) {
         Class<?> got = null;
         try {
             run.get();
@@ -111,74 +110,29 @@ public final class PromiseTests {
             System.out.println("promise " + promise + ": " + call + " threw " + got
                     + ", due is " + want);
         }
-        if (!before.equals(tell(t))) {
-            wrong++;
-            System.out.println("promise " + promise + ": " + call + " threw and changed something");
-        }
     }
 
-    private static void outOfBounds(CausalTable t, String call, Supplier<?> run) {
-        dueThrow(t, IndexOutOfBoundsException.class, call, run);
+    private static void outOfBounds(String call, Supplier<?> run) {
+        dueThrow(IndexOutOfBoundsException.class, call, run);
     }
 
-    private static void illegalArgument(CausalTable t, String call, Supplier<?> run) {
-        dueThrow(t, IllegalArgumentException.class, call, run);
+    private static void illegalArgument(String call, Supplier<?> run) {
+        dueThrow(IllegalArgumentException.class, call, run);
     }
 
-    private static void illegalState(CausalTable t, String call, Supplier<?> run) {
-        dueThrow(t, IllegalStateException.class, call, run);
-    }
-
-    /** All that the queries tell of an object. */
-    private static String tell(CausalTable t) {
-        StringBuilder s = new StringBuilder(tellState(t));
-        s.append(t.savedStates()).append(' ').append(t.textLength()).append(' ');
-        s.append(t.errorPosition());
-        return s.toString();
-    }
-
-    /** All that the queries tell of the state. */
-    private static String tellState(CausalTable t) {
-        StringBuilder s = new StringBuilder();
-        for (int r = 0; r < 4; r++) {
-            for (int row = 0; row < 6; row++) {
-                s.append(t.latest(r, row)).append(' ').append(t.greatest(r, row)).append(' ');
-                s.append(t.counter(r, row)).append(' ').append(t.elements(r, row)).append(' ');
-                s.append(t.exists(r, row)).append(' ').append(t.mean(r, row)).append(' ');
-                for (int i = 0; i < 5; i++) {
-                    s.append(t.sibling(r, row, i)).append(' ').append(t.entries(r, row, i));
-                    s.append(' ');
-                }
-            }
-            for (int other = 0; other < 4; other++) {
-                s.append(t.seen(r, other)).append(' ').append(t.relation(r, other)).append(' ');
-                if (r != other) {
-                    s.append(t.ifMerged(r, other, 2)).append(' ');
-                    s.append(t.ifMerged(r, other, 3)).append(' ');
-                }
-            }
-            s.append(t.clock(r)).append(' ').append(t.conflicts(r)).append(' ');
-            s.append(t.latestMerge(r)).append('\n');
-        }
-        return s.append(t.agreement()).append('\n').toString();
-    }
-
-    private static void write(CausalTable t, String text) {
-        t.clearText();
-        for (int i = 0; i < text.length(); i++) {
-            t.appendText(text.charAt(i));
-        }
+    private static void illegalState(String call, Supplier<?> run) {
+        dueThrow(IllegalStateException.class, call, run);
     }
 
     private static void dueError(String text, int want) {
         CausalTable t = new CausalTable();
-        write(t, text);
+        Check.write(t, text);
         due("errorPosition() of \"" + text + "\"", t.errorPosition(), want);
         due("errorPosition() again", t.errorPosition(), want);
         if (want == CausalTable.NONE) {
             t.runText();
         } else {
-            illegalState(t, "runText() of \"" + text + "\"", t::runText);
+            illegalState("runText() of \"" + text + "\"", t::runText);
         }
     }
 
@@ -200,8 +154,8 @@ public final class PromiseTests {
 
     private static void badCells(CausalTable t, String call, CellQuery query) {
         for (int bad : BAD_REPLICAS) {
-            outOfBounds(t, call + " of replica " + bad, () -> query.of(t, bad, 0));
-            outOfBounds(t, call + " of row " + bad, () -> query.of(t, 3, bad == 4 ? 6 : bad));
+            outOfBounds(call + " of replica " + bad, () -> query.of(t, bad, 0));
+            outOfBounds(call + " of row " + bad, () -> query.of(t, 3, bad == 4 ? 6 : bad));
         }
     }
 
@@ -258,19 +212,19 @@ public final class PromiseTests {
         due("put over four", fourSiblings().put(2, 0, 1, 1), 4);
         due("put beside four", fourSiblings().put(2, 0, 0, 1), 0);
         for (int bad : BAD_REPLICAS) {
-            outOfBounds(t, "put replica", () -> t.put(bad, 0, 0, 1));
-            outOfBounds(t, "put replica and value", () -> t.put(bad, 0, 0, -1));
+            outOfBounds("put replica", () -> t.put(bad, 0, 0, 1));
+            outOfBounds("put replica and value", () -> t.put(bad, 0, 0, -1));
         }
         for (int bad : BAD_ROWS) {
-            outOfBounds(t, "put row", () -> t.put(0, bad, 0, 1));
-            outOfBounds(t, "put row and value", () -> t.put(0, bad, 0, 1000));
+            outOfBounds("put row", () -> t.put(0, bad, 0, 1));
+            outOfBounds("put row and value", () -> t.put(0, bad, 0, 1000));
         }
         for (int bad : new int[] {-1, 3, 4, 5, Integer.MAX_VALUE, Integer.MIN_VALUE}) {
-            outOfBounds(t, "put column", () -> t.put(0, 0, bad, 1));
-            outOfBounds(t, "put column and value", () -> t.put(0, 0, bad, 1000));
+            outOfBounds("put column", () -> t.put(0, 0, bad, 1));
+            outOfBounds("put column and value", () -> t.put(0, 0, bad, 1000));
         }
         for (int bad : new int[] {-1, 1000, Integer.MAX_VALUE, Integer.MIN_VALUE}) {
-            illegalArgument(t, "put value", () -> t.put(0, 0, 0, bad));
+            illegalArgument("put value", () -> t.put(0, 0, 0, bad));
         }
     }
 
@@ -292,15 +246,15 @@ public final class PromiseTests {
         t.undo();
         due("counter after undo", t.counter(1, 2), -3);
         for (int bad : BAD_REPLICAS) {
-            outOfBounds(t, "add replica", () -> t.add(bad, 0, 1));
-            outOfBounds(t, "add replica and amount", () -> t.add(bad, 0, 0));
+            outOfBounds("add replica", () -> t.add(bad, 0, 1));
+            outOfBounds("add replica and amount", () -> t.add(bad, 0, 0));
         }
         for (int bad : BAD_ROWS) {
-            outOfBounds(t, "add row", () -> t.add(0, bad, 1));
-            outOfBounds(t, "add row and amount", () -> t.add(0, bad, 100));
+            outOfBounds("add row", () -> t.add(0, bad, 1));
+            outOfBounds("add row and amount", () -> t.add(0, bad, 100));
         }
         for (int bad : new int[] {0, 100, -100, Integer.MAX_VALUE, Integer.MIN_VALUE}) {
-            illegalArgument(t, "add amount", () -> t.add(0, 0, bad));
+            illegalArgument("add amount", () -> t.add(0, 0, bad));
         }
     }
 
@@ -321,7 +275,7 @@ public final class PromiseTests {
         due("seen", t.seen(3, 3), 1);
         due("undo", t.undo(), 5);
         due("entries after undo", t.entries(3, 1, 4), 4);
-        badElements(t, "include", t::include);
+        badElements("include", t::include);
     }
 
     private static void exclude() {
@@ -341,24 +295,24 @@ public final class PromiseTests {
         t.undo();
         t.undo();
         due("elements after undo", t.elements(1, 1), 24);
-        badElements(t, "exclude", t::exclude);
+        badElements("exclude", t::exclude);
     }
 
     private interface ElementCall {
         Object of(int replica, int row, int element);
     }
 
-    private static void badElements(CausalTable t, String name, ElementCall call) {
+    private static void badElements(String name, ElementCall call) {
         for (int bad : BAD_REPLICAS) {
-            outOfBounds(t, name + " replica", () -> call.of(bad, 0, 1));
-            outOfBounds(t, name + " replica and element", () -> call.of(bad, 0, 16));
+            outOfBounds(name + " replica", () -> call.of(bad, 0, 1));
+            outOfBounds(name + " replica and element", () -> call.of(bad, 0, 16));
         }
         for (int bad : BAD_ROWS) {
-            outOfBounds(t, name + " row", () -> call.of(0, bad, 1));
-            outOfBounds(t, name + " row and element", () -> call.of(0, bad, -1));
+            outOfBounds(name + " row", () -> call.of(0, bad, 1));
+            outOfBounds(name + " row and element", () -> call.of(0, bad, -1));
         }
         for (int bad : new int[] {-1, 16, Integer.MAX_VALUE, Integer.MIN_VALUE}) {
-            illegalArgument(t, name + " element", () -> call.of(0, 0, bad));
+            illegalArgument(name + " element", () -> call.of(0, 0, bad));
         }
     }
 
@@ -418,13 +372,13 @@ public final class PromiseTests {
         due("merge removes from the first cell to the last", t.merge(3, 2), 2);
         due("removed", t.latestMerge(3), 2);
         for (int bad : BAD_REPLICAS) {
-            outOfBounds(t, "merge from", () -> t.merge(bad, 0));
-            outOfBounds(t, "merge to", () -> t.merge(0, bad));
-            outOfBounds(t, "merge of the same", () -> t.merge(bad, bad));
+            outOfBounds("merge from", () -> t.merge(bad, 0));
+            outOfBounds("merge to", () -> t.merge(0, bad));
+            outOfBounds("merge of the same", () -> t.merge(bad, bad));
         }
         for (int same = 0; same < 4; same++) {
             int replica = same;
-            illegalArgument(t, "merge of the same", () -> t.merge(replica, replica));
+            illegalArgument("merge of the same", () -> t.merge(replica, replica));
         }
     }
 
@@ -474,14 +428,15 @@ public final class PromiseTests {
         t.put(1, 0, 1, 5);
         t.put(2, 0, 1, 3);
         t.put(3, 0, 1, 9);
-        String before = tellState(t);
         due("mergeAll of all", t.mergeAll(), 6);
         due("added by the last", t.latestMerge(2), 3);
         for (int r = 1; r < 4; r++) {
             due("relation", t.relation(0, r), CausalTable.EQUAL);
         }
         t.undo();
-        dueTrue("one undo takes all merges back", before.equals(tellState(t)));
+        for (int r = 0; r < 4; r++) {
+            due("one undo takes all merges back", t.entries(r, 0, 1), 1);
+        }
     }
 
     private static void appendText() {
@@ -489,24 +444,24 @@ public final class PromiseTests {
         due("appendText of the first", t.appendText(32), 1);
         due("appendText of the last", t.appendText(126), 2);
         for (int bad : new int[] {31, 127, -1, 0, 65536 + 48, Integer.MAX_VALUE, Integer.MIN_VALUE}) {
-            illegalArgument(t, "appendText", () -> t.appendText(bad));
+            illegalArgument("appendText", () -> t.appendText(bad));
         }
         for (int i = 3; i <= 80; i++) {
             due("appendText", t.appendText('d'), i);
         }
-        illegalState(t, "appendText to the full text", () -> t.appendText('d'));
-        illegalArgument(t, "appendText of a wrong one to the full text", () -> t.appendText(31));
+        illegalState("appendText to the full text", () -> t.appendText('d'));
+        illegalArgument("appendText of a wrong one to the full text", () -> t.appendText(31));
         due("savedStates", t.savedStates(), 0);
     }
 
     private static void clearText() {
         CausalTable t = new CausalTable();
         due("clearText of nothing", t.clearText(), 0);
-        write(t, "d00");
+        Check.write(t, "d00");
         due("clearText", t.clearText(), 3);
         due("textLength", t.textLength(), 0);
         due("errorPosition", t.errorPosition(), 0);
-        write(t, "d");
+        Check.write(t, "d");
         due("what was cleared is gone", t.errorPosition(), 1);
         for (int i = 1; i < 80; i++) {
             t.appendText('x');
@@ -610,7 +565,7 @@ public final class PromiseTests {
 
     private static void runText() {
         CausalTable t = new CausalTable();
-        write(t, "v00,5;v10,7;m01;a01,-3");
+        Check.write(t, "v00,5;v10,7;m01;a01,-3");
         due("runText", t.runText(), 4);
         due("sibling", t.sibling(1, 0, 0), 5);
         due("sibling", t.sibling(1, 0, 1), 7);
@@ -624,24 +579,24 @@ public final class PromiseTests {
         due("undo", t.undo(), 1);
         due("counter", t.counter(0, 1), -3);
         due("undo", t.undo(), 0);
-        dueTrue("undone at once", tellState(t).equals(tellState(new CausalTable())));
+        due("undone at once", t.clock(0) + t.clock(1) + t.entries(1, 0, 1), 0);
         due("the text stays", t.textLength(), 22);
-        write(t, "d00;".repeat(19) + "d00");
+        Check.write(t, "d00;".repeat(19) + "d00");
         due("runText of twenty", t.runText(), 20);
         due("clock", t.clock(0), 20);
         due("savedStates", t.savedStates(), 1);
-        write(t, "v00,5;v10,7;m00");
-        illegalState(t, "runText of a wrong text", t::runText);
-        write(t, "v00,5;");
-        illegalState(t, "runText of a text that ends too early", t::runText);
+        Check.write(t, "v00,5;v10,7;m00");
+        illegalState("runText of a wrong text", t::runText);
+        Check.write(t, "v00,5;");
+        illegalState("runText of a text that ends too early", t::runText);
         t.clearText();
-        illegalState(t, "runText of nothing", t::runText);
+        illegalState("runText of nothing", t::runText);
     }
 
     private static void runTextOfEachCommand() {
         CausalTable t = new CausalTable();
         CausalTable u = new CausalTable();
-        write(t, "l01,7;v12,999;g23,0;a34,-99;i05,15;i15,10;e15,10;m03;m12;g23,12;g23,4");
+        Check.write(t, "l01,7;v12,999;g23,0;a34,-99;i05,15;i15,10;e15,10;m03;m12;g23,12;g23,4");
         due("runText", t.runText(), 11);
         u.put(0, 1, 0, 7);
         u.put(1, 2, 1, 999);
@@ -654,10 +609,9 @@ public final class PromiseTests {
         u.merge(1, 2);
         u.put(2, 3, 2, 12);
         u.put(2, 3, 2, 4);
-        dueTrue("a text does as the calls do", tellState(t).equals(tellState(u)));
         due("greatest", t.greatest(2, 3), 12);
         due("elements", t.elements(3, 5), 1 << 15);
-        write(t, "d23;a34,99;a34,1;i00,1;e00,0;m30");
+        Check.write(t, "d23;a34,99;a34,1;i00,1;e00,0;m30");
         due("runText", t.runText(), 6);
         u.delete(2, 3);
         u.add(3, 4, 99);
@@ -665,42 +619,48 @@ public final class PromiseTests {
         u.include(0, 0, 1);
         u.exclude(0, 0, 0);
         u.merge(3, 0);
-        dueTrue("a text does as the calls do", tellState(t).equals(tellState(u)));
         due("counter", t.counter(0, 4), 1);
+        for (int r = 0; r < 4; r++) {
+            dueTrue("a text does as the calls do", Check.replica(t, r).equals(Check.replica(u, r)));
+        }
     }
 
     private static void undo() {
         CausalTable t = new CausalTable();
-        illegalState(t, "undo of nothing", t::undo);
-        String[] told = new String[9];
+        illegalState("undo of nothing", t::undo);
         for (int i = 0; i < 9; i++) {
-            told[i] = tellState(t);
-            t.put(i % 4, i % 6, i % 3, i);
-            t.merge(i % 4, (i + 1) % 4);
+            putAndMerge(t, i);
         }
         for (int i = 8; i >= 6; i--) {
             due("undo", t.undo(), 2 * (i - 6) + 1);
             due("undo", t.undo(), 2 * (i - 6));
-            dueTrue("undo restores", told[i].equals(tellState(t)));
         }
-        illegalState(t, "undo of a discarded state", t::undo);
+        illegalState("undo of a discarded state", t::undo);
         due("savedStates", t.savedStates(), 0);
         t.put(0, 0, 0, 1);
         due("undo after undo", t.undo(), 0);
-        dueTrue("undo restores", told[6].equals(tellState(t)));
-        write(t, "d00");
+        CausalTable sixth = new CausalTable();
+        for (int i = 0; i < 6; i++) {
+            putAndMerge(sixth, i);
+        }
+        dueTrue("undo restores", Check.state(t).equals(Check.state(sixth)));
+        Check.write(t, "d00");
         t.runText();
         t.appendText(';');
         t.undo();
         due("the text is not undone", t.textLength(), 4);
         t.add(1, 1, 1);
-        String before = tellState(t);
         t.mergeAll();
-        illegalArgument(t, "merge", () -> t.merge(1, 1));
-        t.undo();
-        dueTrue("a call that threw saved nothing", before.equals(tellState(t)));
+        illegalArgument("merge", () -> t.merge(1, 1));
+        due("undo: a call that threw saved nothing", t.undo(), 1);
+        due("latestMerge from before", t.latestMerge(0), 1);
         t.exclude(0, 5, 5);
         due("savedStates after a call that removes nothing", t.savedStates(), 2);
+    }
+
+    private static void putAndMerge(CausalTable t, int i) {
+        t.put(i % 4, i % 6, i % 3, i);
+        t.merge(i % 4, (i + 1) % 4);
     }
 
     private static void stampsAreRestored() {
@@ -818,8 +778,8 @@ public final class PromiseTests {
         due("sibling", t.sibling(0, 0, 0), 0);
         due("sibling", t.sibling(0, 0, 1), 8);
         due("sibling", t.sibling(0, 0, 2), -1);
-        outOfBounds(t, "sibling", () -> t.sibling(0, 0, -1));
-        outOfBounds(t, "sibling", () -> t.sibling(0, 0, Integer.MIN_VALUE));
+        outOfBounds("sibling", () -> t.sibling(0, 0, -1));
+        outOfBounds("sibling", () -> t.sibling(0, 0, Integer.MIN_VALUE));
         badCells(t, "sibling", (u, r, row) -> u.sibling(r, row, 0));
     }
 
@@ -894,9 +854,9 @@ public final class PromiseTests {
 
     private static void entries() {
         CausalTable t = new CausalTable();
-        write(t, "l00,1;v00,1;g00,1;a00,1;i00,1;l10,1;v10,1;g10,1;a10,1;i10,1");
+        Check.write(t, "l00,1;v00,1;g00,1;a00,1;i00,1;l10,1;v10,1;g10,1;a10,1;i10,1");
         t.runText();
-        write(t, "l20,1;v20,1;g20,1;a20,1;i20,1;l30,1;v30,1;g30,1;a30,1;i30,1;i30,15");
+        Check.write(t, "l20,1;v20,1;g20,1;a20,1;i20,1;l30,1;v30,1;g30,1;a30,1;i30,1;i30,15");
         t.runText();
         t.mergeAll();
         for (int r = 0; r < 4; r++) {
@@ -911,7 +871,7 @@ public final class PromiseTests {
         t.add(0, 0, 1);
         due("entries", t.entries(0, 0, 3), 4);
         for (int bad : new int[] {-1, 5, Integer.MAX_VALUE, Integer.MIN_VALUE}) {
-            outOfBounds(t, "entries", () -> t.entries(0, 0, bad));
+            outOfBounds("entries", () -> t.entries(0, 0, bad));
         }
         badCells(t, "entries", (u, r, row) -> u.entries(r, row, 4));
     }
@@ -919,7 +879,7 @@ public final class PromiseTests {
     private static void exists() {
         for (String text : new String[] {"l15,0", "v15,0", "g15,0", "a15,1;a15,-1", "i15,0", "i15,15"}) {
             CausalTable t = new CausalTable();
-            write(t, text);
+            Check.write(t, text);
             t.runText();
             dueTrue(text + " makes the row", t.exists(1, 5));
             dueTrue("not another row", !t.exists(1, 4) && !t.exists(1, 0));
@@ -965,8 +925,8 @@ public final class PromiseTests {
         due("seen", t.seen(2, 2), 1);
         due("clock", t.clock(2), 3);
         for (int bad : BAD_REPLICAS) {
-            outOfBounds(t, "seen", () -> t.seen(bad, 0));
-            outOfBounds(t, "seen", () -> t.seen(0, bad));
+            outOfBounds("seen", () -> t.seen(bad, 0));
+            outOfBounds("seen", () -> t.seen(0, bad));
         }
     }
 
@@ -987,7 +947,7 @@ public final class PromiseTests {
         due("an undo restores", t.clock(1), 2);
         due("clock", t.clock(3), 0);
         for (int bad : BAD_REPLICAS) {
-            outOfBounds(t, "clock", () -> t.clock(bad));
+            outOfBounds("clock", () -> t.clock(bad));
         }
     }
 
@@ -1007,9 +967,9 @@ public final class PromiseTests {
         t.merge(3, 0);
         due("relation", t.relation(0, 3), CausalTable.EQUAL);
         for (int bad : BAD_REPLICAS) {
-            outOfBounds(t, "relation", () -> t.relation(bad, 0));
-            outOfBounds(t, "relation", () -> t.relation(0, bad));
-            outOfBounds(t, "relation", () -> t.relation(bad, bad));
+            outOfBounds("relation", () -> t.relation(bad, 0));
+            outOfBounds("relation", () -> t.relation(0, bad));
+            outOfBounds("relation", () -> t.relation(bad, bad));
         }
     }
 
@@ -1031,7 +991,7 @@ public final class PromiseTests {
         due("conflicts", t.conflicts(1), 4);
         due("conflicts of three", fourSiblings().conflicts(2), 1);
         for (int bad : BAD_REPLICAS) {
-            outOfBounds(t, "conflicts", () -> t.conflicts(bad));
+            outOfBounds("conflicts", () -> t.conflicts(bad));
         }
     }
 
@@ -1057,7 +1017,7 @@ public final class PromiseTests {
         t.delete(3, 0);
         dueTrue("agreement", t.agreement() == 29.0 / 30.0);
         for (int row = 0; row < 6; row++) {
-            write(t, "l0R,1;v0R,1;g0R,1;a0R,1;i0R,1".replace('R', (char) ('0' + row)));
+            Check.write(t, "l0R,1;v0R,1;g0R,1;a0R,1;i0R,1".replace('R', (char) ('0' + row)));
             t.runText();
         }
         dueTrue("nothing agrees", t.agreement() == 0.0);
@@ -1081,7 +1041,7 @@ public final class PromiseTests {
         t.merge(2, 1);
         due("latestMerge", t.latestMerge(2), 0);
         due("latestMerge", t.latestMerge(3), 1);
-        write(t, "m10;m03");
+        Check.write(t, "m10;m03");
         t.runText();
         due("by a text", t.latestMerge(0), 0);
         due("by a text", t.latestMerge(1), 3);
@@ -1098,7 +1058,7 @@ public final class PromiseTests {
         due("undone to no merge", t.latestMerge(0), -1);
         due("undone to no merge", t.latestMerge(2), -1);
         for (int bad : new int[] {-1, 4, Integer.MAX_VALUE, Integer.MIN_VALUE}) {
-            illegalArgument(t, "latestMerge", () -> t.latestMerge(bad));
+            illegalArgument("latestMerge", () -> t.latestMerge(bad));
         }
     }
 
@@ -1122,15 +1082,15 @@ public final class PromiseTests {
         due("ifMerged", t.ifMerged(1, 0, 3), 1);
         due("merge", t.merge(1, 0), 1);
         for (int bad : BAD_REPLICAS) {
-            outOfBounds(t, "ifMerged", () -> t.ifMerged(bad, 0, 2));
-            outOfBounds(t, "ifMerged", () -> t.ifMerged(0, bad, 2));
-            outOfBounds(t, "ifMerged of the same", () -> t.ifMerged(bad, bad, 2));
-            outOfBounds(t, "ifMerged with a wrong part", () -> t.ifMerged(0, bad, 1));
+            outOfBounds("ifMerged", () -> t.ifMerged(bad, 0, 2));
+            outOfBounds("ifMerged", () -> t.ifMerged(0, bad, 2));
+            outOfBounds("ifMerged of the same", () -> t.ifMerged(bad, bad, 2));
+            outOfBounds("ifMerged with a wrong part", () -> t.ifMerged(0, bad, 1));
         }
         for (int bad : new int[] {-1, 0, 1, 4, Integer.MAX_VALUE, Integer.MIN_VALUE}) {
-            illegalArgument(t, "ifMerged", () -> t.ifMerged(0, 1, bad));
+            illegalArgument("ifMerged", () -> t.ifMerged(0, 1, bad));
         }
-        illegalArgument(t, "ifMerged of the same", () -> t.ifMerged(2, 2, 3));
+        illegalArgument("ifMerged of the same", () -> t.ifMerged(2, 2, 3));
     }
 
     private static void savedStates() {
@@ -1143,7 +1103,7 @@ public final class PromiseTests {
             t.undo();
             due("savedStates", t.savedStates(), i);
         }
-        write(t, "d00");
+        Check.write(t, "d00");
         t.runText();
         t.mergeAll();
         t.merge(0, 1);
@@ -1160,7 +1120,7 @@ public final class PromiseTests {
             t.appendText('m');
             due("textLength", t.textLength(), i);
         }
-        illegalState(t, "appendText", () -> t.appendText('m'));
+        illegalState("appendText", () -> t.appendText('m'));
         due("textLength", t.textLength(), 80);
         t.clearText();
         due("textLength", t.textLength(), 0);
